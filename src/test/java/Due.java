@@ -1,0 +1,86 @@
+import java.util.function.LongSupplier;
+
+/** What all tests of the project share: answers that are due, and refusals that change nothing. */
+final class Due {
+    private static int wrong = 0;
+
+    private Due() {
+    }
+
+    static void due(String call, long got, long want) {
+        if (got != want) {
+            tell(call + " answered " + got + ", due is " + want);
+        }
+    }
+
+    static void holds(String what, boolean so) {
+        if (!so) {
+            tell("it does not hold that " + what);
+        }
+    }
+
+    /** The call answers as is due, and nothing that can be asked is different after it. */
+    static void unchanged(TouchPanel x, String call, LongSupplier answer, long want) {
+        String before = shown(x);
+        due(call, answer.getAsLong(), want);
+        if (!shown(x).equals(before)) {
+            tell(call + " changed what is so");
+        }
+    }
+
+    /** All that can be asked, but for what an image keeps. */
+    static String shown(TouchPanel x) {
+        StringBuilder all = new StringBuilder();
+        for (int what = 0; what <= 16; what++) {
+            all.append(x.told(what)).append(' ');
+        }
+        for (int row = 0; row < x.told(0); row++) {
+            for (int column = 0; column < x.told(1); column++) {
+                for (int what = 0; what <= 4; what++) {
+                    all.append(x.cell(row, column, what)).append(' ');
+                }
+            }
+        }
+        for (int k = 0; k < x.told(8); k++) {
+            for (int what = 0; what <= 4; what++) {
+                all.append(x.contact(k, what)).append(' ');
+            }
+        }
+        for (int t = 0; t < x.told(10); t++) {
+            for (int what = 0; what <= 4; what++) {
+                all.append(x.track(t, what)).append(' ');
+            }
+            all.append(x.paired(t)).append(' ');
+        }
+        return all.append(x.paired(-1)).append(' ').append(x.digest()).toString();
+    }
+
+    /** A panel with a history: two TRACKS, a PALM-free FRAME behind it, a LOST row ahead, ends counted. */
+    static TouchPanel used() {
+        TouchPanel x = new TouchPanel();
+        x.panel(5, 6);
+        x.press(1, 1, 80);
+        x.press(3, 4, 60);
+        x.frame(2);
+        x.wipe();
+        x.frame(2);
+        x.press(2, 2, 70);
+        x.press(4, 5, 90);
+        x.set(0, 0, 4);
+        x.frame(3);
+        x.lose(1);
+        return x;
+    }
+
+    static void tell(String fault) {
+        wrong++;
+        System.out.println(fault);
+    }
+
+    static void end() {
+        System.out.println(wrong == 0 ? "all answers are as due" : wrong + " faults");
+        if (wrong != 0) {
+            System.exit(1);
+        }
+    }
+}
