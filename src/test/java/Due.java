@@ -55,20 +55,31 @@ final class Due {
         return all.append(x.paired(-1)).append(' ').append(x.digest()).toString();
     }
 
-    /** A panel with a history: two TRACKS, a PALM-free FRAME behind it, a LOST row ahead, ends counted. */
+    /** Five by six, with a history: nothing that is told of it is 0. */
     static TouchPanel used() {
         TouchPanel x = new TouchPanel();
         x.panel(5, 6);
-        x.press(1, 1, 80);
-        x.press(3, 4, 60);
+        x.bound(1, 4);
+        x.set(1, 1, 80);
+        x.set(3, 4, 60);
         x.frame(2);
         x.wipe();
         x.frame(2);
+        x.set(3, 1, 70);
+        x.frame(4);
+        x.wipe();
+        x.frame(2);
         x.press(2, 2, 70);
-        x.press(4, 5, 90);
-        x.set(0, 0, 4);
-        x.frame(3);
+        x.set(4, 5, 90);
+        x.set(4, 3, 60);
+        x.set(1, 5, 4);
+        x.frame(2);
+        x.lose(0);
+        x.frame(1);
         x.lose(1);
+        for (int what = 0; what <= 16; what++) {
+            holds("the panel in use tells of " + what, x.told(what) > 0);
+        }
         return x;
     }
 

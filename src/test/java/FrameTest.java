@@ -383,12 +383,12 @@ public final class FrameTest {
         x.bound(3, 0);
         put(x, 0, 50, 0, 0, 40, 0, 0, 30, 0);
         x.frame(2);
-        x.set(0, 3, 0);
+        put(x, 0, 50, 0, 0, 0, 0, 0, 0, 30);
         x.set(1, 4, 90);
         x.bound(2, 1);
         x.frame(1);
         trackIs("ahead of the one that ended", x, 0, 0, 0, 3, 0, 0);
-        trackIs("behind the one that ended", x, 1, 2, 6, 3, 0, 0);
+        trackIs("behind the one that ended", x, 1, 2, 7, 3, 0, 1);
         trackIs("begun last", x, 2, 3, 12, 1, 0, 0);
         ends("close up", x, 1, 0);
     }
