@@ -3,8 +3,45 @@ import java.util.function.LongSupplier;
 /** What all tests of the project share: answers that are due, and refusals that change nothing. */
 final class Due {
     private static int wrong = 0;
+    private static String sentence = "";
 
     private Due() {
+    }
+
+    /** The sentence of the document that the answers from here on are held to: each fault is told with it. */
+    static void sentence(String words) {
+        sentence = words;
+    }
+
+    static TouchPanel panelOf(int rows, int columns) {
+        TouchPanel x = new TouchPanel();
+        due("panel(" + rows + ", " + columns + ")", x.panel(rows, columns), rows * columns);
+        return x;
+    }
+
+    /** RAW of one row. */
+    static void put(TouchPanel x, int row, int... charges) {
+        for (int column = 0; column < charges.length; column++) {
+            x.set(row, column, charges[column]);
+        }
+    }
+
+    static void cellIs(TouchPanel x, int row, int column, int... want) {
+        for (int what = 0; what < want.length; what++) {
+            due("cell(" + row + ", " + column + ", " + what + ")", x.cell(row, column, what), want[what]);
+        }
+    }
+
+    static void contactIs(TouchPanel x, int k, int... want) {
+        for (int what = 0; what < want.length; what++) {
+            due("contact(" + k + ", " + what + ")", x.contact(k, what), want[what]);
+        }
+    }
+
+    static void trackIs(TouchPanel x, int t, int... want) {
+        for (int what = 0; what < want.length; what++) {
+            due("track(" + t + ", " + what + ")", x.track(t, what), want[what]);
+        }
     }
 
     static void due(String call, long got, long want) {
@@ -85,7 +122,7 @@ final class Due {
 
     static void tell(String fault) {
         wrong++;
-        System.out.println(fault);
+        System.out.println(sentence.isEmpty() ? fault : "\"" + sentence + "\": " + fault);
     }
 
     static void end() {
