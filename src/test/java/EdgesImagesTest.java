@@ -94,7 +94,7 @@ public final class EdgesImagesTest {
         Due.trackIs(x, 0, 0, 5, 1, 0, 0);
     }
 
-    /** 8 by 8 with six CONTACTS, six TRACKS, rows LOST and MISSING; the answers stay far below the 512th call. */
+    /** 8 by 8 with five CONTACTS, six TRACKS, a PALM, rows LOST and MISSING. */
     private static TouchPanel crowded() {
         TouchPanel x = Due.panelOf(8, 8);
         x.bound(0, 200);
@@ -104,10 +104,9 @@ public final class EdgesImagesTest {
         for (int i = 0; i < 6; i++) {
             x.set(i, i, 990 - i);
         }
-        Due.put(x, 7, 300, 300, 300, 0, 100);
+        Due.put(x, 6, 300, 300, 300, 0, 100);
         x.frame(5);
         x.set(0, 0, 0);
-        x.lose(6);
         x.lose(7);
         x.frame(1);
         x.lose(0);
@@ -139,7 +138,10 @@ public final class EdgesImagesTest {
         for (int i = 0; i <= 1; i++) {
             TouchPanel x = crowded();
             long[] was = sight(x);
-            Due.due("six TRACKS", was[10], 6);
+            Due.due("CONTACTS", was[8], 5);
+            Due.due("PALMS", was[9], 1);
+            Due.due("TRACKS", was[10], 6);
+            Due.due("MISSING", was[16], 8);
             x.keep(i);
             same("kept", x, was);
             x.panel(2, 2);

@@ -422,6 +422,35 @@ public final class EdgesTracksTest {
             Due.trackIs(x, 5, 6, 63, 1, 0, 0);
             Due.due("the one that ended", x.named(gone), -1);
         }
+        allOfATrackMovesUp();
+    }
+
+    /** NAME, PEAK, AGE, MISSED and MOVED of those behind one that ends are all different, and all stay. */
+    private static void allOfATrackMovesUp() {
+        TouchPanel x = board(3, 3);
+        charge(x, 0, 90);
+        x.frame(1);
+        x.wipe();
+        charge(x, 16, 80);
+        x.bound(2, 0);
+        x.frame(1);
+        x.bound(2, 3);
+        x.wipe();
+        charge(x, 18, 80);
+        charge(x, 56, 70);
+        x.bound(2, 2);
+        x.frame(1);
+        x.wipe();
+        charge(x, 57, 70);
+        x.frame(1);
+        Due.trackIs(x, 0, 0, 0, 1, 3, 0);
+        Due.trackIs(x, 1, 1, 18, 2, 1, 2);
+        Due.trackIs(x, 2, 2, 57, 2, 0, 1);
+        x.wipe();
+        x.frame(1);
+        Due.due("TRACKS when the first has ended", x.told(10), 2);
+        Due.trackIs(x, 0, 1, 18, 2, 2, 2);
+        Due.trackIs(x, 1, 2, 57, 2, 1, 1);
     }
 
     private static void noTracks() {

@@ -1,3 +1,4 @@
+import java.io.DataInputStream;
 import java.io.IOException;
 import java.lang.reflect.Field;
 import java.lang.reflect.Method;
@@ -19,11 +20,20 @@ public final class LanguageTest {
     private static final String[] FORBIDDEN = {"throw", "throws", "try", "catch", "finally", "synchronized", "assert", "protected",
         "package", "\\w*Exact", "Random", "Thread", "Object", "->", "::", "@"};
 
+    /** Rule 4, as far as a program of numbers alone needs it: class, a dot, and what of it may be called. */
+    private static final Pattern LIBRARY = Pattern.compile("java/lang/Object\\.<init>|java/lang/System\\.arraycopy|\\[[IJSBCZ]\\.clone"
+            + "|java/util/Arrays\\.(copyOf|copyOfRange|fill)|java/lang/(Math|Integer|Long)\\.(compare|max|min|abs|signum|bitCount|floorDiv|floorMod)");
+
     public static void main(String[] args) throws IOException {
         constants();
         face();
         nested();
         text();
+        lengths();
+        library(TouchPanel.class);
+        for (Class<?> inside : TouchPanel.class.getDeclaredClasses()) {
+            library(inside);
+        }
         Due.end();
     }
 
@@ -102,6 +112,68 @@ public final class LanguageTest {
         for (int i = 0; i < source.length(); i++) {
             if (source.charAt(i) > 127) {
                 Due.tell("a sign beyond 127 at " + i);
+            }
+        }
+    }
+
+    /** A method begins with a line that ends in ") {" and ends with the brace below its first sign. */
+    private static void lengths() throws IOException {
+        Pattern begin = Pattern.compile("( {4}| {8})[A-Za-z][^;=]*\\) \\{");
+        int start = 0;
+        String end = null;
+        int number = 0;
+        for (String line : Files.readAllLines(Path.of(System.getProperty("touchpanel.source")))) {
+            number++;
+            boolean control = line.strip().matches("(if|for|while|switch|else|do)\\b.*");
+            if (end == null && !control && begin.matcher(line).matches()) {
+                start = number;
+                end = " ".repeat(line.length() - line.stripLeading().length()) + "}";
+            } else if (line.equals(end)) {
+                Due.holds("the method at line " + start + " is sixty lines long at most", number - start < 60);
+                end = null;
+            }
+        }
+        Due.holds("methods were seen", start > 0);
+    }
+
+    /** What a class calls or reads outside the source stands in its pool of constants. */
+    private static void library(Class<?> type) throws IOException {
+        String name = type.getName();
+        try (DataInputStream in = new DataInputStream(TouchPanel.class.getResourceAsStream(name + ".class"))) {
+            in.readLong();
+            int count = in.readUnsignedShort();
+            String[] texts = new String[count];
+            int[] tags = new int[count];
+            int[][] parts = new int[count][2];
+            for (int i = 1; i < count; i++) {
+                tags[i] = in.readUnsignedByte();
+                if (tags[i] == 1) {
+                    texts[i] = in.readUTF();
+                } else {
+                    readParts(in, tags[i], parts[i]);
+                }
+                i += tags[i] == 5 || tags[i] == 6 ? 1 : 0;
+            }
+            for (int i = 1; i < count; i++) {
+                Due.holds(name + " makes no call that is bound while it runs", tags[i] < 15);
+                if (tags[i] >= 9 && tags[i] <= 11) {
+                    String owner = texts[parts[parts[i][0]][0]];
+                    String member = owner + "." + texts[parts[parts[i][1]][0]];
+                    Due.holds(name + " calls what is listed: " + member, owner.startsWith("TouchPanel") || LIBRARY.matcher(member).matches());
+                }
+            }
+        }
+    }
+
+    private static void readParts(DataInputStream in, int tag, int[] parts) throws IOException {
+        switch (tag) {
+            case 3, 4 -> in.readInt();
+            case 5, 6 -> in.readLong();
+            case 7, 8, 16, 19, 20 -> parts[0] = in.readUnsignedShort();
+            case 15 -> in.skipBytes(3);
+            default -> {
+                parts[0] = in.readUnsignedShort();
+                parts[1] = in.readUnsignedShort();
             }
         }
     }
