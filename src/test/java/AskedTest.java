@@ -36,10 +36,10 @@ public final class AskedTest {
     private static void pairedTracks() {
         TouchPanel x = threeAndTwo();
         Due.due("TRACKS", x.told(10), 3);
-        Due.unchanged(x, "paired(-1)", () -> x.paired(-1), 4);
-        Due.unchanged(x, "paired(0)", () -> x.paired(0), 1);
-        Due.unchanged(x, "paired(1)", () -> x.paired(1), -1);
-        Due.unchanged(x, "paired(2)", () -> x.paired(2), 0);
+        Due.unchanged(AskedTest::threeAndTwo, "paired(-1)", y -> y.paired(-1), 4);
+        Due.unchanged(AskedTest::threeAndTwo, "paired(0)", y -> y.paired(0), 1);
+        Due.unchanged(AskedTest::threeAndTwo, "paired(1)", y -> y.paired(1), -1);
+        Due.unchanged(AskedTest::threeAndTwo, "paired(2)", y -> y.paired(2), 0);
         x.wipe();
         Due.due("RAW alone changes no CONTACT", x.paired(-1), 4);
         x.frame(1);
@@ -74,22 +74,20 @@ public final class AskedTest {
     }
 
     private static void pairedRefuses() {
-        TouchPanel x = threeAndTwo();
         for (int t : new int[] {-2, 3, 6, LOW, HIGH}) {
-            Due.unchanged(x, "paired(" + t + ")", () -> x.paired(t), UNKNOWN);
+            Due.unchanged(AskedTest::threeAndTwo, "paired(" + t + ")", x -> x.paired(t), UNKNOWN);
         }
-        TouchPanel y = new TouchPanel();
-        Due.unchanged(y, "paired(0) of none", () -> y.paired(0), UNKNOWN);
-        Due.unchanged(y, "paired(-1) of none", () -> y.paired(-1), 0);
+        Due.unchanged(TouchPanel::new, "paired(0) of none", x -> x.paired(0), UNKNOWN);
+        Due.unchanged(TouchPanel::new, "paired(-1) of none", x -> x.paired(-1), 0);
     }
 
     /** By STATE: with 1 and little MOVED, with 1 and much, with 2 and a like WAY, with 2 and another one. */
     private static final int[][] RULES = {{1, 1, 3, 3}, {1, 2, 3, 3}, {2, 2, 3, 3}, {1, 1, 3, 4}, {2, 2, 4, 4}, {1, 1, 3, 3}};
 
     private static void ruleTable() {
-        TouchPanel x = Due.used();
-        String before = Due.shown(x);
         for (int state = 0; state <= 5; state++) {
+            TouchPanel x = Due.used();
+            String before = Due.shown(x);
             for (int m : new int[] {0, 1, 2, 3, 99}) {
                 for (int d : new int[] {0, 1, 2, 3, 99}) {
                     for (int n = 0; n <= 6; n++) {
@@ -98,18 +96,17 @@ public final class AskedTest {
                     }
                 }
             }
+            Due.holds("rule changes nothing", Due.shown(x).equals(before));
         }
-        Due.holds("rule changes nothing", Due.shown(x).equals(before));
     }
 
     private static void ruleRefuses() {
-        TouchPanel x = Due.used();
         int[] most = {5, 6, 99, 99};
         for (int i = 0; i < 4; i++) {
             for (int v : new int[] {-1, most[i] + 1, LOW, HIGH}) {
                 int[] a = {0, 0, 0, 0};
                 a[i] = v;
-                Due.unchanged(x, "rule with " + v + " at " + i, () -> x.rule(a[0], a[1], a[2], a[3]), OUTSIDE);
+                Due.unchanged(Due::used, "rule with " + v + " at " + i, x -> x.rule(a[0], a[1], a[2], a[3]), OUTSIDE);
             }
         }
     }
@@ -142,10 +139,9 @@ public final class AskedTest {
     }
 
     private static void ghostsByCounting() {
-        TouchPanel x = new TouchPanel();
-        x.panel(8, 8);
         int[] sets = {0, 1, 2, 128, 3, 129, 7, 42, 15, 170, 31, 63, 127, 254, 255};
         for (int rows : sets) {
+            TouchPanel x = Due.panelOf(8, 8);
             for (int columns : sets) {
                 for (int k = 0; k <= 16; k += rows % 3 == 0 ? 1 : 4) {
                     Due.due("ghosts(" + rows + ", " + columns + ", " + k + ")",
@@ -156,24 +152,22 @@ public final class AskedTest {
     }
 
     private static void ghostsKnown() {
-        TouchPanel x = Due.used();
-        Due.unchanged(x, "ghosts(0, 0, 0)", () -> x.ghosts(0, 0, 0), 1);
-        Due.unchanged(x, "ghosts(0, 0, 1)", () -> x.ghosts(0, 0, 1), 0);
-        Due.unchanged(x, "ghosts(0, 1, 0)", () -> x.ghosts(0, 1, 0), 0);
-        Due.unchanged(x, "ghosts(1, 0, 1)", () -> x.ghosts(1, 0, 1), 0);
-        Due.unchanged(x, "ghosts(5, 6, 2)", () -> x.ghosts(5, 6, 2), 2);
-        Due.unchanged(x, "ghosts(5, 6, 3)", () -> x.ghosts(5, 6, 3), 4);
-        Due.unchanged(x, "ghosts(5, 6, 5)", () -> x.ghosts(5, 6, 5), 0);
-        Due.unchanged(x, "ghosts(31, 63, 5)", () -> x.ghosts(31, 63, 5), 0);
-        Due.unchanged(x, "ghosts(31, 31, 5)", () -> x.ghosts(31, 31, 5), 120);
+        Due.unchanged(Due::used, "ghosts(0, 0, 0)", x -> x.ghosts(0, 0, 0), 1);
+        Due.unchanged(Due::used, "ghosts(0, 0, 1)", x -> x.ghosts(0, 0, 1), 0);
+        Due.unchanged(Due::used, "ghosts(0, 1, 0)", x -> x.ghosts(0, 1, 0), 0);
+        Due.unchanged(Due::used, "ghosts(1, 0, 1)", x -> x.ghosts(1, 0, 1), 0);
+        Due.unchanged(Due::used, "ghosts(5, 6, 2)", x -> x.ghosts(5, 6, 2), 2);
+        Due.unchanged(Due::used, "ghosts(5, 6, 3)", x -> x.ghosts(5, 6, 3), 4);
+        Due.unchanged(Due::used, "ghosts(5, 6, 5)", x -> x.ghosts(5, 6, 5), 0);
+        Due.unchanged(Due::used, "ghosts(31, 63, 5)", x -> x.ghosts(31, 63, 5), 0);
+        Due.unchanged(Due::used, "ghosts(31, 31, 5)", x -> x.ghosts(31, 31, 5), 120);
     }
 
     private static void ghostsRefuse() {
-        TouchPanel x = Due.used();
         int[][] wrong = {{32, 0, 0}, {0, 64, 0}, {-1, 0, 0}, {0, -1, 0}, {0, 0, -1}, {0, 0, 17},
             {LOW, 0, 0}, {0, LOW, 0}, {0, 0, LOW}, {HIGH, 0, 0}, {0, HIGH, 0}, {0, 0, HIGH}};
         for (int[] a : wrong) {
-            Due.unchanged(x, "ghosts(" + a[0] + ", " + a[1] + ", " + a[2] + ")", () -> x.ghosts(a[0], a[1], a[2]), OUTSIDE);
+            Due.unchanged(Due::used, "ghosts(" + a[0] + ", " + a[1] + ", " + a[2] + ")", x -> x.ghosts(a[0], a[1], a[2]), OUTSIDE);
         }
     }
 
@@ -205,16 +199,16 @@ public final class AskedTest {
     private static void digestIsTheSum() {
         TouchPanel x = Due.used();
         Due.due("digest of one in use", x.digest(), summed(x));
-        x.panel(3, 7);
-        Due.due("digest anew", x.digest(), summed(x));
         for (int seed = 1; seed < 60; seed++) {
-            x.drift(1 + seed % 5, seed);
-            Due.due("digest after drift", x.digest(), summed(x));
+            TouchPanel y = Due.panelOf(3, 7);
+            Due.due("digest anew", y.digest(), summed(y));
+            y.drift(1 + seed % 30, seed);
+            Due.due("digest after drift", y.digest(), summed(y));
         }
         long before = x.digest();
         Due.due("asked again", x.digest(), before);
         x.bound(0, 77);
-        x.lose(1);
+        x.lose(3);
         Due.due("BOUNDS and LOST rows are not in it", x.digest(), before);
     }
 

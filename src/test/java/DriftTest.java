@@ -66,12 +66,12 @@ public final class DriftTest {
         int[][] sizes = {{4, 4}, {2, 2}, {8, 8}, {3, 7}, {8, 2}, {2, 8}};
         int[] seeds = {1, 2, 3, 7, 99, 12345, 500000, 999999};
         for (int[] size : sizes) {
-            TouchPanel p = new TouchPanel();
-            TouchPanel q = new TouchPanel();
-            p.panel(size[0], size[1]);
-            q.panel(size[0], size[1]);
+            // by hand a lot takes as many calls as there are CELLS, and a FRAME one more: 400 calls at most
+            int most = Math.min(30, 400 / (size[0] * size[1] + 1));
             for (int seed : seeds) {
-                int n = 1 + seed % 30;
+                TouchPanel p = Due.panelOf(size[0], size[1]);
+                TouchPanel q = Due.panelOf(size[0], size[1]);
+                int n = most - seed % 3;
                 int state = 0;
                 x = seed;
                 for (int i = 0; i < n; i++) {
@@ -99,17 +99,16 @@ public final class DriftTest {
     }
 
     private static void refusals() {
-        TouchPanel p = Due.used();
         for (int n : new int[] {0, -1, 31, Integer.MIN_VALUE, Integer.MAX_VALUE}) {
-            Due.unchanged(p, "drift(" + n + ", 1)", () -> p.drift(n, 1), OUTSIDE);
+            Due.unchanged(Due::used, "drift(" + n + ", 1)", p -> p.drift(n, 1), OUTSIDE);
         }
         for (int seed : new int[] {0, -1, 1000000, Integer.MIN_VALUE, Integer.MAX_VALUE}) {
-            Due.unchanged(p, "drift(1, " + seed + ")", () -> p.drift(1, seed), OUTSIDE);
+            Due.unchanged(Due::used, "drift(1, " + seed + ")", p -> p.drift(1, seed), OUTSIDE);
         }
         full();
     }
 
-    private static void full() {
+    private static TouchPanel justFull() {
         TouchPanel p = new TouchPanel();
         for (int i = 0; i < 300; i++) {
             p.drift(30, 1 + i);
@@ -117,8 +116,12 @@ public final class DriftTest {
         Due.due("FRAMES", p.told(6), 9000);
         p.drift(1, 5);
         Due.due("one more at 9000", p.told(6), 9001);
-        Due.unchanged(p, "drift(1, 1) when FULL", () -> p.drift(1, 1), -1000000004);
-        Due.unchanged(p, "drift(1, 0) when FULL", () -> p.drift(1, 0), OUTSIDE);
-        Due.unchanged(p, "frame(1) when FULL", () -> p.frame(1), -1000000004);
+        return p;
+    }
+
+    private static void full() {
+        Due.unchanged(DriftTest::justFull, "drift(1, 1) when FULL", p -> p.drift(1, 1), -1000000004);
+        Due.unchanged(DriftTest::justFull, "drift(1, 0) when FULL", p -> p.drift(1, 0), OUTSIDE);
+        Due.unchanged(DriftTest::justFull, "frame(1) when FULL", p -> p.frame(1), -1000000004);
     }
 }

@@ -482,9 +482,8 @@ public final class FrameTest {
     }
 
     private static void refusals() {
-        TouchPanel x = Due.used();
         for (int n : new int[] {0, -1, 31, Integer.MIN_VALUE, Integer.MAX_VALUE}) {
-            Due.unchanged(x, "frame(" + n + ")", () -> x.frame(n), OUTSIDE);
+            Due.unchanged(Due::used, "frame(" + n + ")", x -> x.frame(n), OUTSIDE);
         }
         TouchPanel y = panelOf(2, 2);
         y.frame(30);
@@ -492,7 +491,7 @@ public final class FrameTest {
         Due.due("FRAMES", y.told(6), 31);
     }
 
-    private static void full() {
+    private static TouchPanel justFull() {
         TouchPanel x = panelOf(2, 2);
         x.set(0, 0, 50);
         for (int i = 0; i < 300; i++) {
@@ -502,11 +501,16 @@ public final class FrameTest {
         Due.due("9000 is not above 9000", x.frame(30), 1);
         Due.due("FRAMES then", x.told(6), 9030);
         Due.due("AGE then", x.track(0, 2), 9030);
-        Due.unchanged(x, "frame(1) when FULL", () -> x.frame(1), FULL);
-        Due.unchanged(x, "frame(31) when FULL", () -> x.frame(31), OUTSIDE);
-        Due.unchanged(x, "drift(1, 1) when FULL", () -> x.drift(1, 1), FULL);
-        Due.unchanged(x, "drift(1, 0) when FULL", () -> x.drift(1, 0), OUTSIDE);
-        Due.unchanged(x, "drift(31, 1) when FULL", () -> x.drift(31, 1), OUTSIDE);
+        return x;
+    }
+
+    private static void full() {
+        Due.unchanged(FrameTest::justFull, "frame(1) when FULL", x -> x.frame(1), FULL);
+        Due.unchanged(FrameTest::justFull, "frame(31) when FULL", x -> x.frame(31), OUTSIDE);
+        Due.unchanged(FrameTest::justFull, "drift(1, 1) when FULL", x -> x.drift(1, 1), FULL);
+        Due.unchanged(FrameTest::justFull, "drift(1, 0) when FULL", x -> x.drift(1, 0), OUTSIDE);
+        Due.unchanged(FrameTest::justFull, "drift(31, 1) when FULL", x -> x.drift(31, 1), OUTSIDE);
+        TouchPanel x = justFull();
         x.panel(2, 2);
         Due.due("anew it is not FULL", x.frame(1), 0);
     }

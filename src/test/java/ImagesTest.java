@@ -29,7 +29,8 @@ public final class ImagesTest {
             TouchPanel x = Due.used();
             int image = i;
             String was = Due.shown(x);
-            Due.unchanged(x, "keep(" + i + ")", () -> x.keep(image), 1);
+            Due.unchanged(Due::used, "keep(" + i + ")", y -> y.keep(image), 1);
+            Due.due("keep(" + i + ")", x.keep(i), 1);
             for (int time = 0; time < 3; time++) {
                 disturb(x);
                 if (time == 1) {
@@ -83,19 +84,26 @@ public final class ImagesTest {
         Due.holds("rows and columns are as they were", Due.shown(x).equals(was));
     }
 
-    private static void refusals() {
+    private static TouchPanel oneKept() {
         TouchPanel x = Due.used();
-        Due.unchanged(x, "goBack(0), not kept", () -> x.goBack(0), NOT);
         x.keep(1);
         disturb(x);
-        Due.unchanged(x, "goBack(0), 1 is kept", () -> x.goBack(0), NOT);
+        return x;
+    }
+
+    private static void refusals() {
+        Due.unchanged(Due::used, "goBack(0), not kept", x -> x.goBack(0), NOT);
+        Due.unchanged(ImagesTest::oneKept, "goBack(0), 1 is kept", x -> x.goBack(0), NOT);
+        TouchPanel asked = oneKept();
         for (int i : new int[] {-1, 2, 3, 32, 33, Integer.MIN_VALUE, Integer.MAX_VALUE}) {
-            Due.unchanged(x, "keep(" + i + ")", () -> x.keep(i), UNKNOWN);
-            Due.unchanged(x, "goBack(" + i + ")", () -> x.goBack(i), UNKNOWN);
+            Due.unchanged(ImagesTest::oneKept, "keep(" + i + ")", x -> x.keep(i), UNKNOWN);
+            Due.unchanged(ImagesTest::oneKept, "goBack(" + i + ")", x -> x.goBack(i), UNKNOWN);
+            asked.keep(i);
+            asked.goBack(i);
         }
-        Due.due("goBack(0) is not kept by what was refused", x.goBack(0), NOT);
-        Due.due("goBack(1) is", x.goBack(1), 1);
-        Due.holds("IMAGE 1 is untouched", Due.shown(x).equals(Due.shown(Due.used())));
+        Due.due("goBack(0) is not kept by what was refused", asked.goBack(0), NOT);
+        Due.due("goBack(1) is", asked.goBack(1), 1);
+        Due.holds("IMAGE 1 is untouched", Due.shown(asked).equals(Due.shown(Due.used())));
     }
 
     /** The WAY at which STATE became 3 shows only later; FRAMES that are FULL are so no more. */

@@ -7,7 +7,9 @@ import java.util.Random;
  * The model tries all pairings one by one and holds copies, where the class adds up and uses rows again.
  */
 public final class ModelTest {
-    private static final int RUNS = 400, CALLS = 300;
+    private static final int RUNS = 1000;
+    /** An object is used for 512 calls at most: a long run, or a short one with a look at all that is told after it. */
+    private static final int LONG_RUN = 512, SHORT_RUN = 90;
     private static final int UNKNOWN = -1000000001, OUTSIDE = -1000000002, NOT = -1000000003, FULL = -1000000004;
 
     public static void main(String[] args) {
@@ -16,11 +18,13 @@ public final class ModelTest {
             TouchPanel x = new TouchPanel();
             Model y = new Model();
             StringBuilder calls = new StringBuilder();
-            for (int i = 0; i < CALLS; i++) {
-                if (!sameCall(x, y, lots, calls) || i % 5 == 0 && !sameSight(x, y, calls)) {
-                    Due.tell("run " + run + ":" + calls);
-                    break;
-                }
+            boolean isLong = run % 2 == 0;
+            boolean same = true;
+            for (int i = 0; same && i < (isLong ? LONG_RUN : SHORT_RUN); i++) {
+                same = lots.nextInt(3) > 0 ? sameChange(x, y, lots, calls) : sameAnswer(x, y, lots, calls);
+            }
+            if (!same || !isLong && !sameSight(x, y, calls)) {
+                Due.tell("run " + run + ":" + calls);
             }
         }
         Due.end();
@@ -41,7 +45,7 @@ public final class ModelTest {
         return least + lots.nextInt(Math.max(1, most - least + 1));
     }
 
-    private static boolean sameCall(TouchPanel x, Model y, Random lots, StringBuilder calls) {
+    private static boolean sameChange(TouchPanel x, Model y, Random lots, StringBuilder calls) {
         int rows = y.now.rows;
         int columns = y.now.columns;
         int which = lots.nextInt(100);
@@ -72,27 +76,53 @@ public final class ModelTest {
         } else if (which < 46) {
             a = number(lots, 0, rows - 1);
             return same(calls, "lose", x.lose(a), y.lose(a), a);
-        } else if (which < 76) {
+        } else if (which < 86) {
             a = lots.nextInt(4) == 0 ? number(lots, 1, 30) : 1;
             return same(calls, "frame", x.frame(a), y.frame(a), a);
-        } else if (which < 82) {
+        } else if (which < 94) {
             a = lots.nextBoolean() ? number(lots, 1, 30) : 1;
             b = number(lots, 1, 999999);
             return same(calls, "drift", x.drift(a, b), y.drift(a, b), a, b);
-        } else if (which < 90) {
-            a = number(lots, -1, 5);
-            return same(calls, "paired", x.paired(a), y.paired(a), a);
-        } else if (which < 94) {
-            a = number(lots, 0, (1 << rows) - 1);
-            b = number(lots, 0, (1 << columns) - 1);
-            c = number(lots, 0, 16);
-            return same(calls, "ghosts", x.ghosts(a, b, c), y.ghosts(a, b, c), a, b, c);
         } else if (which < 97) {
             a = number(lots, 0, 1);
             return same(calls, "keep", x.keep(a), y.keep(a), a);
         }
         a = number(lots, 0, 1);
         return same(calls, "goBack", x.goBack(a), y.goBack(a), a);
+    }
+
+    private static boolean sameAnswer(TouchPanel x, Model y, Random lots, StringBuilder calls) {
+        int a = number(lots, 0, 5);
+        int b = number(lots, 0, 4);
+        int c = number(lots, 0, 16);
+        switch (lots.nextInt(12)) {
+            case 0:
+                return same(calls, "told", x.told(c), y.told(c), c);
+            case 1:
+                a = number(lots, 0, y.now.rows - 1);
+                c = number(lots, 0, y.now.columns - 1);
+                return same(calls, "cell", x.cell(a, c, b), y.cell(a, c, b), a, c, b);
+            case 2:
+                return same(calls, "contact", x.contact(a, b), y.contact(a, b), a, b);
+            case 3:
+                return same(calls, "track", x.track(a, b), y.track(a, b), a, b);
+            case 4:
+                a = number(lots, Math.max(0, y.now.nextName - 7), y.now.nextName);
+                return same(calls, "named", x.named(a), y.now.named(a), a);
+            case 5:
+                c = number(lots, 0, 99);
+                int d = number(lots, 0, 3);
+                return same(calls, "rule", x.rule(a, b, c, d), y.rule(a, b, c, d), a, b, c, d);
+            case 6:
+                a = number(lots, 0, (1 << y.now.rows) - 1);
+                b = number(lots, 0, (1 << y.now.columns) - 1);
+                return same(calls, "ghosts", x.ghosts(a, b, c), y.ghosts(a, b, c), a, b, c);
+            case 7, 8:
+                a = number(lots, -1, 5);
+                return same(calls, "paired", x.paired(a), y.paired(a), a);
+            default:
+                return same(calls, "digest", x.digest(), y.digest());
+        }
     }
 
     private static boolean same(StringBuilder calls, String call, long got, long want, int... numbers) {
@@ -107,33 +137,27 @@ public final class ModelTest {
         return got == want;
     }
 
+    /** As much as all of it, 416 calls at most. */
     private static boolean sameSight(TouchPanel x, Model y, StringBuilder calls) {
-        Model.Scene s = y.now;
         boolean same = true;
-        int[] told = {s.rows, s.columns, s.bounds[0], s.bounds[1], s.bounds[2], s.bounds[3], s.frames, s.state,
-            s.contacts.size(), s.palms, s.tracks.size(), s.taps, s.lifts, s.nextName, s.lost, s.touched(), s.missing};
-        for (int what = 0; what < told.length; what++) {
-            same &= same(calls, "told", x.told(what), told[what], what);
+        for (int what = 0; what <= 16; what++) {
+            same &= same(calls, "told", x.told(what), y.told(what), what);
         }
-        for (int at = 0; at < s.rows * s.columns; at++) {
-            int[] cell = {s.raw[at], s.ground[at], s.signal[at], s.peak[at] < 0 ? 0 : 1, s.peak[at]};
-            for (int what = 0; what < 5; what++) {
-                same &= same(calls, "cell", x.cell(at / s.columns, at % s.columns, what), cell[what], at, what);
+        for (int row = 0; row < y.now.rows; row++) {
+            for (int column = 0; column < y.now.columns; column++) {
+                for (int what = 0; what <= 4; what++) {
+                    same &= same(calls, "cell", x.cell(row, column, what), y.cell(row, column, what), row, column, what);
+                }
             }
         }
-        for (int k = 0; k <= 6; k++) {
-            for (int what = 0; what < 5; what++) {
-                same &= same(calls, "contact", x.contact(k, what), s.contact(k, what), k, what);
+        for (int i = 0; i <= 6; i++) {
+            for (int what = 0; what <= 4; what++) {
+                same &= same(calls, "contact", x.contact(i, what), y.contact(i, what), i, what);
+                same &= same(calls, "track", x.track(i, what), y.track(i, what), i, what);
             }
         }
-        for (int t = 0; t <= 6; t++) {
-            for (int what = 0; what < 5; what++) {
-                int want = t < s.tracks.size() ? s.tracks.get(t)[what] : UNKNOWN;
-                same &= same(calls, "track", x.track(t, what), want, t, what);
-            }
-        }
-        for (int name = s.nextName - 8; name <= s.nextName; name++) {
-            same &= same(calls, "named", x.named(name), s.named(name), name);
+        for (int name = y.now.nextName - 8; name <= y.now.nextName; name++) {
+            same &= same(calls, "named", x.named(name), y.now.named(name), name);
         }
         return same;
     }
@@ -254,6 +278,66 @@ public final class ModelTest {
                 now.take();
             }
             return now.state;
+        }
+
+        int told(int what) {
+            Scene s = now;
+            int[] told = {s.rows, s.columns, s.bounds[0], s.bounds[1], s.bounds[2], s.bounds[3], s.frames, s.state,
+                s.contacts.size(), s.palms, s.tracks.size(), s.taps, s.lifts, s.nextName, s.lost, s.touched(), s.missing};
+            return what < 0 || what > 16 ? OUTSIDE : told[what];
+        }
+
+        int cell(int row, int column, int what) {
+            if (refusal(row, column, 0) != 0) {
+                return UNKNOWN;
+            }
+            int at = row * now.columns + column;
+            int[] cell = {now.raw[at], now.ground[at], now.signal[at], now.peak[at] < 0 ? 0 : 1, now.peak[at]};
+            return what < 0 || what > 4 ? OUTSIDE : cell[what];
+        }
+
+        int contact(int k, int what) {
+            if (what < 0 || what > 4) {
+                return OUTSIDE;
+            }
+            return k < 0 || k >= now.contacts.size() ? -1 : now.contact(k, what);
+        }
+
+        int track(int t, int what) {
+            if (t < 0 || t >= now.tracks.size()) {
+                return UNKNOWN;
+            }
+            return what < 0 || what > 4 ? OUTSIDE : now.tracks.get(t)[what];
+        }
+
+        int rule(int state, int n, int m, int d) {
+            if (state < 0 || state > 5 || n < 0 || n > 6 || m < 0 || m > 99 || d < 0 || d > 99) {
+                return OUTSIDE;
+            }
+            return Scene.next(state, n, m, d);
+        }
+
+        long digest() {
+            long h = 17;
+            for (int what = 6; what <= 13; what++) {
+                h = 31 * h + told(what);
+            }
+            for (int at = 0; at < now.raw.length; at++) {
+                for (int what = 0; what <= 4; what++) {
+                    h = 31 * h + cell(at / now.columns, at % now.columns, what);
+                }
+            }
+            for (int k = 0; k < now.contacts.size(); k++) {
+                for (int what = 0; what <= 4; what++) {
+                    h = 31 * h + contact(k, what);
+                }
+            }
+            for (int[] track : now.tracks) {
+                for (int v : track) {
+                    h = 31 * h + v;
+                }
+            }
+            return h;
         }
 
         int paired(int t) {
@@ -395,9 +479,6 @@ public final class ModelTest {
             }
 
             int contact(int k, int what) {
-                if (k >= contacts.size()) {
-                    return -1;
-                }
                 int top = contacts.get(k);
                 int area = 0;
                 int heavy = 0;
@@ -551,24 +632,27 @@ public final class ModelTest {
                 int n = tracks.size();
                 int was = state;
                 int between = n == 2 ? way(tracks.get(0)[1], tracks.get(1)[1]) : 0;
-                if (n == 0) {
-                    state = 0;
-                } else if (n >= 3) {
-                    state = 5;
-                } else if (was == 0 || was == 5) {
-                    state = n == 1 ? 1 : 3;
-                } else if (was == 1) {
-                    state = n == 2 ? 3 : tracks.get(0)[4] >= 2 ? 2 : 1;
-                } else if (was == 2) {
-                    state = n == 2 ? 3 : 2;
-                } else if (was == 3) {
-                    state = n == 1 ? 1 : Math.abs(between - wayOfThree) >= 2 ? 4 : 3;
-                } else {
-                    state = n == 2 ? 4 : 2;
-                }
+                state = next(was, n, n == 0 ? 0 : tracks.get(0)[4], Math.abs(between - wayOfThree));
                 if (state == 3 && was != 3) {
                     wayOfThree = between;
                 }
+            }
+
+            static int next(int was, int n, int moved, int differs) {
+                if (n == 0) {
+                    return 0;
+                } else if (n >= 3) {
+                    return 5;
+                } else if (was == 0 || was == 5) {
+                    return n == 1 ? 1 : 3;
+                } else if (was == 1) {
+                    return n == 2 ? 3 : moved >= 2 ? 2 : 1;
+                } else if (was == 2) {
+                    return n == 2 ? 3 : 2;
+                } else if (was == 3) {
+                    return n == 1 ? 1 : differs >= 2 ? 4 : 3;
+                }
+                return n == 2 ? 4 : 2;
             }
         }
     }

@@ -73,10 +73,9 @@ public final class PanelTest {
     }
 
     private static void panelRefuses() {
-        TouchPanel x = Due.used();
         int[][] wrong = {{1, 4}, {4, 1}, {9, 4}, {4, 9}, {0, 0}, {-1, 3}, {3, -1}, {LOW, 4}, {4, LOW}, {HIGH, 4}, {4, HIGH}};
         for (int[] size : wrong) {
-            Due.unchanged(x, "panel(" + size[0] + ", " + size[1] + ")", () -> x.panel(size[0], size[1]), OUTSIDE);
+            Due.unchanged(Due::used, "panel(" + size[0] + ", " + size[1] + ")", x -> x.panel(size[0], size[1]), OUTSIDE);
         }
     }
 
@@ -94,15 +93,14 @@ public final class PanelTest {
     }
 
     private static void boundsRefuse() {
-        TouchPanel x = Due.used();
         for (int what = 0; what < 4; what++) {
             int w = what;
             for (int v : new int[] {LEAST[w] - 1, MOST[w] + 1, LOW, HIGH}) {
-                Due.unchanged(x, "bound(" + w + ", " + v + ")", () -> x.bound(w, v), OUTSIDE);
+                Due.unchanged(Due::used, "bound(" + w + ", " + v + ")", x -> x.bound(w, v), OUTSIDE);
             }
         }
         for (int what : new int[] {-1, 4, LOW, HIGH}) {
-            Due.unchanged(x, "bound(" + what + ", 1)", () -> x.bound(what, 1), OUTSIDE);
+            Due.unchanged(Due::used, "bound(" + what + ", 1)", x -> x.bound(what, 1), OUTSIDE);
         }
     }
 
@@ -153,18 +151,17 @@ public final class PanelTest {
     }
 
     private static void setAndPressRefuse() {
-        TouchPanel x = Due.used();
         int[][] unknown = {{-1, 0}, {0, -1}, {5, 0}, {0, 6}, {5, 6}, {LOW, 0}, {0, LOW}, {HIGH, 0}, {0, HIGH}};
         for (int[] at : unknown) {
             for (int v : new int[] {0, 5, -1, 1000}) {
                 String where = "(" + at[0] + ", " + at[1] + ", " + v + ")";
-                Due.unchanged(x, "set" + where, () -> x.set(at[0], at[1], v), UNKNOWN);
-                Due.unchanged(x, "press" + where, () -> x.press(at[0], at[1], v), UNKNOWN);
+                Due.unchanged(Due::used, "set" + where, x -> x.set(at[0], at[1], v), UNKNOWN);
+                Due.unchanged(Due::used, "press" + where, x -> x.press(at[0], at[1], v), UNKNOWN);
             }
         }
         for (int v : new int[] {-1, 1000, LOW, HIGH}) {
-            Due.unchanged(x, "set(4, 5, " + v + ")", () -> x.set(4, 5, v), OUTSIDE);
-            Due.unchanged(x, "press(4, 5, " + v + ")", () -> x.press(4, 5, v), OUTSIDE);
+            Due.unchanged(Due::used, "set(4, 5, " + v + ")", x -> x.set(4, 5, v), OUTSIDE);
+            Due.unchanged(Due::used, "press(4, 5, " + v + ")", x -> x.press(4, 5, v), OUTSIDE);
         }
     }
 
@@ -197,10 +194,9 @@ public final class PanelTest {
     }
 
     private static void loseRefuses() {
-        TouchPanel x = Due.used();
-        Due.unchanged(x, "lose(1) that is", () -> x.lose(1), NOT);
+        Due.unchanged(Due::used, "lose(1) that is", x -> x.lose(1), NOT);
         for (int row : new int[] {-1, 5, 32, 33, LOW, HIGH}) {
-            Due.unchanged(x, "lose(" + row + ")", () -> x.lose(row), UNKNOWN);
+            Due.unchanged(Due::used, "lose(" + row + ")", x -> x.lose(row), UNKNOWN);
         }
     }
 }

@@ -6,19 +6,20 @@ public final class RoomTest {
     private static final ThreadMXBean THREADS = (ThreadMXBean) ManagementFactory.getThreadMXBean();
 
     public static void main(String[] args) {
-        TouchPanel x = new TouchPanel();
-        allCalls(x, 40);
+        allCalls(new TouchPanel());
         long before = allocated();
-        allCalls(x, 400);
-        long calls = allocated() - before;
-        Due.holds("400 rounds of all calls make nothing: " + calls + " bytes", calls < 2000);
-        before = allocated();
         TouchPanel[] many = new TouchPanel[100];
         for (int i = 0; i < many.length; i++) {
             many[i] = new TouchPanel();
         }
         long each = (allocated() - before) / many.length;
         Due.holds("a new object is small: " + each + " bytes", each < 10000);
+        before = allocated();
+        for (int i = 0; i < many.length; i++) {
+            allCalls(many[i]);
+        }
+        long calls = allocated() - before;
+        Due.holds("all calls of 100 objects make nothing: " + calls + " bytes", calls < 2000);
         Due.end();
     }
 
@@ -26,11 +27,10 @@ public final class RoomTest {
         return THREADS.getThreadAllocatedBytes(Thread.currentThread().getId());
     }
 
-    private static void allCalls(TouchPanel x, int rounds) {
-        for (int i = 0; i < rounds; i++) {
-            if (i % 50 == 0) {
-                x.panel(8, 8);
-            }
+    /** 512 calls at most, as the document promises nothing of later ones. */
+    private static void allCalls(TouchPanel x) {
+        x.panel(8, 8);
+        for (int i = 0; i < 28; i++) {
             x.bound(2, i % 15);
             x.set(i % 8, 3, i);
             x.press(i % 7, i % 5, 70);
@@ -47,8 +47,8 @@ public final class RoomTest {
             x.ghosts(255, 255, i % 17);
             x.digest();
             x.keep(i % 2);
-            x.goBack(0);
-            x.wipe();
+            x.goBack(i % 3);
         }
+        x.wipe();
     }
 }

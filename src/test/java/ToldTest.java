@@ -75,9 +75,8 @@ public final class ToldTest {
     }
 
     private static void toldRefuses() {
-        TouchPanel x = scene();
         for (int what : new int[] {-1, 17, LOW, HIGH}) {
-            Due.unchanged(x, "told(" + what + ")", () -> x.told(what), OUTSIDE);
+            Due.unchanged(ToldTest::scene, "told(" + what + ")", x -> x.told(what), OUTSIDE);
         }
     }
 
@@ -101,15 +100,14 @@ public final class ToldTest {
     }
 
     private static void cellRefuses() {
-        TouchPanel x = scene();
         int[][] unknown = {{-1, 0}, {0, -1}, {6, 0}, {0, 5}, {LOW, 0}, {0, LOW}, {HIGH, 0}, {0, HIGH}};
         for (int[] at : unknown) {
             for (int what : new int[] {0, 4, -1, 5}) {
-                Due.unchanged(x, "cell(" + at[0] + ", " + at[1] + ", " + what + ")", () -> x.cell(at[0], at[1], what), UNKNOWN);
+                Due.unchanged(ToldTest::scene, "cell(" + at[0] + ", " + at[1] + ", " + what + ")", x -> x.cell(at[0], at[1], what), UNKNOWN);
             }
         }
         for (int what : new int[] {-1, 5, LOW, HIGH}) {
-            Due.unchanged(x, "cell(5, 4, " + what + ")", () -> x.cell(5, 4, what), OUTSIDE);
+            Due.unchanged(ToldTest::scene, "cell(5, 4, " + what + ")", x -> x.cell(5, 4, what), OUTSIDE);
         }
     }
 
@@ -149,14 +147,13 @@ public final class ToldTest {
     }
 
     private static void contactRefuses() {
-        TouchPanel x = scene();
         for (int what : new int[] {-1, 5, LOW, HIGH}) {
             for (int k : new int[] {0, 1, 2, -1, LOW, HIGH}) {
-                Due.unchanged(x, "contact(" + k + ", " + what + ")", () -> x.contact(k, what), OUTSIDE);
+                Due.unchanged(ToldTest::scene, "contact(" + k + ", " + what + ")", x -> x.contact(k, what), OUTSIDE);
             }
         }
         for (int k : new int[] {-1, 2, 5, 6, 7, LOW, HIGH}) {
-            Due.unchanged(x, "contact(" + k + ", 0)", () -> x.contact(k, 0), -1);
+            Due.unchanged(ToldTest::scene, "contact(" + k + ", 0)", x -> x.contact(k, 0), -1);
         }
     }
 
@@ -181,22 +178,20 @@ public final class ToldTest {
     }
 
     private static void trackRefuses() {
-        TouchPanel x = scene();
         for (int t : new int[] {-1, 2, 5, 6, LOW, HIGH}) {
             for (int what : new int[] {0, 4, -1, 5}) {
-                Due.unchanged(x, "track(" + t + ", " + what + ")", () -> x.track(t, what), UNKNOWN);
+                Due.unchanged(ToldTest::scene, "track(" + t + ", " + what + ")", x -> x.track(t, what), UNKNOWN);
             }
         }
         for (int what : new int[] {-1, 5, LOW, HIGH}) {
-            Due.unchanged(x, "track(1, " + what + ")", () -> x.track(1, what), OUTSIDE);
+            Due.unchanged(ToldTest::scene, "track(1, " + what + ")", x -> x.track(1, what), OUTSIDE);
         }
     }
 
     private static void namedAll() {
-        TouchPanel x = scene();
         int[][] want = {{0, -1}, {1, -1}, {2, 0}, {3, 1}, {4, -1}, {-1, -1}, {LOW, -1}, {HIGH, -1}};
         for (int[] name : want) {
-            Due.unchanged(x, "named(" + name[0] + ")", () -> x.named(name[0]), name[1]);
+            Due.unchanged(ToldTest::scene, "named(" + name[0] + ")", x -> x.named(name[0]), name[1]);
         }
     }
 }
